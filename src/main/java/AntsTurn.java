@@ -401,8 +401,8 @@ public final class AntsTurn {
         found++;
       }
     }
-    // All ways are a power of 2, so that only 2s can be in both.
-    int common = found == 0 ? board.ways() : Integer.lowestOneBit(found);
+    // All ways are a power of 2, so that what is common is the lowest bit of those found.
+    int common = found == 0 ? board.ways() : found & -found;
     int above = part == 0 ? found : board.ways();
     return common == 0 ? NO : above / common;
   }
@@ -671,90 +671,74 @@ public final class AntsTurn {
   }
 
   private static class Stubborn extends Ant {
-    @Override
     int kind() {
       return 1;
     }
 
-    @Override
     boolean turns() {
       return false;
     }
 
-    @Override
     int weighs() {
       return super.weighs() + 1;
     }
   }
 
   private static class Shy extends Ant {
-    @Override
     int kind() {
       return 2;
     }
 
-    @Override
     boolean returns() {
       return returned < traits[NUMBER];
     }
 
-    @Override
     int weighs() {
       return super.weighs() / 2;
     }
   }
 
   private static final class Tired extends Stubborn {
-    @Override
     int kind() {
       return 3;
     }
 
-    @Override
     boolean turns() {
       return met < traits[NUMBER] || super.turns();
     }
 
-    @Override
     int weighs() {
       return 2 * super.weighs();
     }
   }
 
   private static final class Proud extends Shy {
-    @Override
     int kind() {
       return 4;
     }
 
-    @Override
     boolean turns() {
       return met != traits[NUMBER] && super.turns();
     }
 
-    @Override
     boolean returns() {
       return returned == 0 || super.returns();
     }
 
-    @Override
     int weighs() {
       return super.weighs() + 3;
     }
   }
 
   private static final class Edgy extends Shy {
-    @Override
     int kind() {
       return 5;
     }
 
-    @Override
     boolean returns() {
       return returned % 2 == 0 && super.returns();
     }
 
-    @Override
     int weighs() {
       return super.weighs() + traits[NUMBER];
     }
@@ -872,7 +856,8 @@ public final class AntsTurn {
       Ant a = ants[carrier];
       int facing = a.left == 1 ? rightsAt[a.place] : leftsAt[a.place];
       if (facing != 0) {
-        carrier = Integer.numberOfTrailingZeros(facing);
+        // As many bits stand below the lowest one as its ant's number tells.
+        carrier = Integer.bitCount((facing & -facing) - 1);
       }
     }
 

@@ -134,6 +134,11 @@ public final class PromiseTest {
     due("of(0, 0)", x.of(0, 0), 2);
     due("plank(0, 20)", x.plank(0, 20), 8);
     due("of(0, 0) on a longer one", x.of(0, 0), 26);
+    due("last(1)", x.last(1), 34);
+    x.plank(0, 10);
+    due("last(1) on a shorter one", x.last(1), 14);
+    x.plank(1, 1);
+    due("last(1) on a ring", x.last(1), AntsTurn.NONE);
   }
 
   private static void ant() {
@@ -161,6 +166,11 @@ public final class PromiseTest {
     due("an eighth ant", x.ant(0, 100, 0), AntsTurn.FULL);
     due("an eighth ant that is none", x.ant(0, 120, 0), AntsTurn.BAD);
     due("seven ants", x.count(0), 7);
+    AntsTurn one = new AntsTurn();
+    one.ant(0, 500, 0);
+    due("last(1)", one.last(1), 10);
+    one.ant(0, 100, 0);
+    due("last(1) with one more", one.last(1), 18);
   }
 
   private static void set() {
@@ -176,6 +186,9 @@ public final class PromiseTest {
     due("told(1, 2)", x.told(1, 2), 20);
     due("told(1, 3)", x.told(1, 3), 9);
     due("told(0, 0)", x.told(0, 0), 2);
+    due("set(1, 3, 0)", x.set(1, 3, 0), 9);
+    due("set(1, 2, 0)", x.set(1, 2, 0), 20);
+    due("set(1, 2, 20)", x.set(1, 2, 20), 0);
     int[][] bad = {
       {2, 0, 1}, {-1, 0, 1}, {0, -1, 1}, {0, 4, 1}, {0, 0, 0}, {0, 0, 10}, {0, 1, -1}, {0, 1, 2}, {0, 2, -1},
       {0, 2, 21}, {0, 3, -1}, {0, 3, 10}, {MIN, 0, 1}, {0, MAX, 1}, {0, 0, MIN}
@@ -253,13 +266,25 @@ public final class PromiseTest {
       wide.insert(4, wide.length() % 2 == 0 ? ' ' : '\n');
     }
     due("a text of 160 bytes", text(new AntsTurn(), wide.toString()), 1);
+    StringBuilder sum = new StringBuilder("turn 1;stay 0;heat 1");
+    while (sum.length() < 157) {
+      sum.append("+1");
+    }
+    due("a text of 158 bytes that ends too early", text(new AntsTurn(), sum.toString()), -258);
+    AntsTurn again = pair();
+    for (int n = 1; n < 6; n++) {
+      due("a faulty one of many tokens", text(again, sum.toString()), -258);
+      due("text " + n + " of many tokens", text(again, sum + ";"), n);
+      again.force(n);
+      due("what it comes to", again.of(0, 4), 70);
+    }
   }
 
   private static void faults() {
     Object[][] faults = {
       {"", 0}, {"   ", 3}, {"turn", 4}, {"turn ", 5}, {"turn 1", 6}, {"turn 1 ;", 8}, {"turn 1;stay 0;heat 0", 20},
       {"turn 1;stay 0;heat 0 \n", 22}, {"turn 1;stay 0;heat 0;;", 21}, {"turn 1;stay 0;heat 0; 1", 22},
-      {"turn 1;stay 0;heat 0; turn", 22}, {"stay 1", 0}, {"  heat 1", 2}, {"turn 1;turn 1", 7},
+      {"turn 1;stay 0;heat 0; turn", 22}, {"turn 1;stay 0;heat 0;?", 21}, {"turn 1;stay 0;heat 0; x", 22}, {"stay 1", 0}, {"  heat 1", 2}, {"turn 1;turn 1", 7},
       {"turn 1;stay 0;stay 0", 14}, {"1", 0}, {";", 0}, {"turns 1", 0}, {" tur", 1}, {"TURN", 0}, {"turnmeets", 0},
       {"turn ant", 5}, {"turn meet", 5}, {"turn placed", 5}, {"turn ;", 5}, {"turn turn", 5}, {"turn or", 5},
       {"turn heat", 5}, {"turn 12345", 5}, {"turn 00001", 5}, {"turn 1 ?", 7}, {"turn 1\t;", 6}, {"turn 1\r;", 6},
@@ -383,6 +408,16 @@ public final class PromiseTest {
     x.plank(1, 1);
     due("on a ring: of(0, 0)", x.of(0, 0), AntsTurn.NONE);
     due("on a ring: of(0, 1)", x.of(0, 1), AntsTurn.NONE);
+    AntsTurn lefts = new AntsTurn();
+    lefts.ant(0, 410, 0);
+    lefts.ant(0, 410, 0);
+    lefts.ant(0, 200, 0);
+    due("two to the left: of(2, 4)", lefts.of(2, 4), 2);
+    due("two to the left: of(0, 0)", lefts.of(0, 0), 16);
+    due("two to the left: of(2, 0)", lefts.of(2, 0), 8);
+    due("two to the left: through(0, 1)", lefts.through(0, 1), 2);
+    due("two to the left: carried(2, 0)", lefts.carried(2, 0), 0);
+    due("two to the left: carried(1, 0)", lefts.carried(1, 0), 2);
     AntsTurn late = new AntsTurn();
     late.plank(0, 2);
     late.ant(0, 100, 0);
@@ -445,6 +480,12 @@ public final class PromiseTest {
     shy = single(2, 2);
     rule(shy, "turn 1;stay beat=2;heat 0;");
     due("what stays by both turns once: of(0, 3)", shy.of(0, 3), 2);
+    AntsTurn edgy = single(5, 9);
+    rule(edgy, "turn 1;stay beat=6;heat 0;");
+    due("edgy, even again: of(0, 0)", edgy.of(0, 0), 14);
+    AntsTurn proud = single(4, 0);
+    rule(proud, "turn 1;stay beat=2;heat 0;");
+    due("proud, once: of(0, 0)", proud.of(0, 0), 6);
     AntsTurn two = new AntsTurn();
     two.ant(0, 800, 0);
     two.ant(0, 800, 0);
@@ -714,6 +755,42 @@ public final class PromiseTest {
     due("on a ring: fits(0, 1, 1)", x.fits(0, 1, 1), 2);
     row(x, 0, 1, java.util.Arrays.copyOf(beats, 19));
     due("one fewer: fits(0, 1, 0)", x.fits(0, 1, 0), 0);
+    AntsTurn first = new AntsTurn();
+    first.ant(0, 500, 0);
+    first.ant(0, 500, 0);
+    row(first, 0, 2);
+    due("nothing heard in beat 0: fits(0, 1, 0)", first.fits(0, 1, 0), 2);
+    row(first, 0, 2, 0);
+    due("heard in beat 0: fits(0, 1, 0)", first.fits(0, 1, 0), 2);
+    due("heard in beat 0: fits(0, 1, 1)", first.fits(0, 1, 1), 1);
+    AntsTurn turned = pair();
+    turned.ant(0, 810, 0);
+    rule(turned, "turn not left;stay 0;heat 0;");
+    // Behind beat 2 all go to the left, so that ant 2 meets nobody, whichever way it faces.
+    row(turned, 0, 2, 2);
+    due("heard as they turn: fits(0, 1, 0)", turned.fits(0, 1, 0), 2);
+    due("heard as they turn: fits(0, 1, 1)", turned.fits(0, 1, 1), 2);
+    row(turned, 0, 2, 4, 6);
+    due("heard as they turn: fits(0, 1, 1)", turned.fits(0, 1, 1), 4);
+    AntsTurn lastBeat = pair();
+    lastBeat.plank(1, 1);
+    lastBeat.set(0, 0, 1);
+    lastBeat.set(1, 0, 1);
+    int[] all = new int[21];
+    for (int i = 0; i < 21; i++) {
+      all[i] = 10 * i;
+    }
+    row(lastBeat, 0, 2, all);
+    due("heard in beat 200: fits(0, 1, 0)", lastBeat.fits(0, 1, 0), 2);
+    AntsTurn often = single(0, 0);
+    often.plank(1, 1);
+    often.ant(0, 110, 0);
+    int[] forty = new int[40];
+    for (int i = 0; i < 40; i++) {
+      forty[i] = 2 * i;
+    }
+    row(often, 3, 0, forty);
+    due("more than a sheet can tell: fits(3, 1, 0)", often.fits(3, 1, 0), 0);
     AntsTurn many = new AntsTurn();
     many.ant(0, 200, 0);
     many.ant(0, 410, 0);
@@ -812,6 +889,8 @@ public final class PromiseTest {
     due("three of 80 places, back in 240: round()", three.round(), AntsTurn.NONE);
     three.set(2, 1, 0);
     due("three that don't meet: round()", three.round(), 80);
+    three.ant(0, 2510, 0);
+    due("three that meet one, back in 160: round()", three.round(), 160);
   }
 
   private static void drawn() {
@@ -875,6 +954,11 @@ public final class PromiseTest {
     due("back() to three", x.back(), 3);
     due("told(2, 3)", x.told(2, 3), 0);
     due("told(2, 4)", x.told(2, 4), 5);
+    x.plank(1, 1);
+    x.image();
+    x.plank(1, 0);
+    x.back();
+    due("a ring is kept: count(2)", x.count(2), 1);
     AntsTurn none = new AntsTurn();
     due("image() without ants", none.image(), 0);
     none.ant(0, 100, 0);
@@ -916,7 +1000,7 @@ public final class PromiseTest {
     due("cell(3, 0, 1)", x.cell(3, 0, 1), -11);
     due("sheet(2, -1, -5)", x.sheet(2, -1, -5), 1);
     AntsTurn anew = new AntsTurn();
-    row(anew, 0, 2, 2, 3, 4);
+    row(anew, 0, 2, 1, 203, 4);
     due("sheet(0, 2, 3)", anew.sheet(0, 2, 3), 1);
     row(anew, 1, 2, 0, 100, 0);
     due("all 0: ants(0, 2, 0, 1)", anew.ants(0, 2, 0, 1), 0);
