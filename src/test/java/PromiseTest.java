@@ -271,6 +271,8 @@ public final class PromiseTest {
       sum.append("+1");
     }
     due("a text of 158 bytes that ends too early", text(new AntsTurn(), sum.toString()), -258);
+    due("160 tokens", text(new AntsTurn(), "(".repeat(160)), -100);
+    due("157 tokens", text(new AntsTurn(), "turn" + "(".repeat(156)), -109);
     AntsTurn again = pair();
     for (int n = 1; n < 6; n++) {
       due("a faulty one of many tokens", text(again, sum.toString()), -258);
