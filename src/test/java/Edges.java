@@ -4,12 +4,6 @@ import java.nio.file.Path;
 
 /** Tests by sentences of the document: each is named before it is tested, and none may be left out. */
 final class Edges {
-  static final int MIN = Integer.MIN_VALUE;
-  static final int MAX = Integer.MAX_VALUE;
-  static final int NONE = -1, BAD = -2, STATE = -3, FULL = -4;
-  static final int NOTHING = -11, OUTSIDE = -12, OTHER_SORT = -13, BELOW_NOTHING = -14, NO_SUCH = -100000;
-  static final long NO = -4611686018427387904L;
-
   private static final int PROMISES = 30;
 
   /** One call on an object. */

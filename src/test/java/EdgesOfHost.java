@@ -1,14 +1,9 @@
 /** Promises 26 to 30: sheets, ants by a sheet, and kinds. */
-final class EdgesOfHost {
-  private static final int MIN = Edges.MIN, MAX = Edges.MAX;
-  private static final int BAD = Edges.BAD, NOTHING = Edges.NOTHING, OUTSIDE = Edges.OUTSIDE;
-  private static final int OTHER_SORT = Edges.OTHER_SORT, BELOW_NOTHING = Edges.BELOW_NOTHING;
+final class EdgesOfHost extends EdgesOf {
   private static final int[] NO_SHEET = {-1, 4, MIN, MAX};
 
-  private final Edges e;
-
   private EdgesOfHost(Edges e) {
-    this.e = e;
+    super(e);
   }
 
   static void look(Edges e) {
@@ -46,13 +41,6 @@ final class EdgesOfHost {
     return x.copy(sheet, i, other, 0, 1) == 1 && x.fits(other, 1, 0) == 2;
   }
 
-  private static AntsTurn twoOnOneKnot() {
-    AntsTurn x = new AntsTurn();
-    x.ant(0, 500, 0);
-    x.ant(0, 500, 0);
-    return x;
-  }
-
   private void sheetBecomes() {
     e.says(26, "SHEETS 0 .. 3 are rows of numbers, or missing (as all are at first): of sort 0 bytes, 1 shorts, 2 ints.");
     AntsTurn first = new AntsTurn();
@@ -86,7 +74,7 @@ final class EdgesOfHost {
 
   private void allNought() {
     e.says(26, "all 0,");
-    AntsTurn x = twoOnOneKnot();
+    AntsTurn x = with(10, 0, new int[] {0, 500, 0}, new int[] {0, 500, 0});
     x.sheet(3, 2, 40);
     for (int i = 0; i < 40; i++) {
       x.cell(3, i, i + 1);
@@ -149,7 +137,9 @@ final class EdgesOfHost {
       Texts.row(x, 0, 1, s);
       isAnt("shorts " + java.util.Arrays.toString(s), x, 0, 1, 0, 4, 9, 1, 9, 20);
     }
-    int[][] others = {{1, 256 + 5, 100, 0}, {2, 65536 + 5, 100, 0}, {2, 5, 65536 + 100, 0}, {2, 5, 100, 256}, {0, 5, 200, 0}, {0, -1, 100, 0}};
+    int[][] others = {
+      {1, 256 + 5, 100, 0}, {2, 65536 + 5, 100, 0}, {2, 5, 65536 + 100, 0}, {2, 5, 100, 256}, {0, 5, 200, 0}, {0, -1, 100, 0}
+    };
     for (int[] o : others) {
       AntsTurn x = new AntsTurn();
       Texts.row(x, 0, o[0], o[1], o[2], o[3]);
@@ -180,7 +170,8 @@ final class EdgesOfHost {
     e.stays(Scene.SHEETS, "cell(1, 3, 7)", x -> x.cell(1, 3, 7), OUTSIDE);
     e.stays(Scene.SHEETS, "cell(3, 0, 7)", x -> x.cell(3, 0, 7), OUTSIDE);
     e.stays(Scene.FULL, "cell(3, 40, 7)", x -> x.cell(3, 40, 7), OUTSIDE);
-    e.says(27, "the host's: -11 nothing where something is asked, -12 a place outside, -13 a thing of another sort or KIND, -14 a size below 0.");
+    e.says(27, "the host's: -11 nothing where something is asked, -12 a place outside, "
+        + "-13 a thing of another sort or KIND, -14 a size below 0.");
     AntsTurn x = new AntsTurn();
     e.is("cell(0, 0, 0)", x.cell(0, 0, 0), -11);
     e.is("sheet(0, 0, -1)", x.sheet(0, 0, -1), -14);

@@ -1,12 +1,7 @@
 /** Promises 1 to 5: a new object, the plank and what is told of ants. */
-final class EdgesOfPlank {
-  private static final int MIN = Edges.MIN, MAX = Edges.MAX;
-  private static final int BAD = Edges.BAD, STATE = Edges.STATE, FULL = Edges.FULL;
-
-  private final Edges e;
-
+final class EdgesOfPlank extends EdgesOf {
   private EdgesOfPlank(Edges e) {
-    this.e = e;
+    super(e);
   }
 
   static void look(Edges e) {
@@ -51,7 +46,7 @@ final class EdgesOfPlank {
     e.is("another object's count(0)", other.count(0), 0);
     e.is("another object's count(1)", other.count(1), 10);
     e.is("another object's count(4)", other.count(4), 0);
-    e.is("another object's cell(0, 0, 0)", other.cell(0, 0, 0), Edges.NOTHING);
+    e.is("another object's cell(0, 0, 0)", other.cell(0, 0, 0), NOTHING);
     e.is("another object's back()", other.back(), STATE);
   }
 
@@ -78,6 +73,15 @@ final class EdgesOfPlank {
     x.plank(1, 1);
     x.plank(0, 5);
     e.is("RING stays by LONG: count(2)", x.count(2), 1);
+    AntsTurn goes = new AntsTurn();
+    goes.ant(0, 800, 0);
+    e.is("LONG 10: soonest(1)", goes.soonest(1), 4);
+    goes.plank(0, 9);
+    e.is("LONG 9: soonest(1)", goes.soonest(1), 2);
+    goes.plank(1, 1);
+    e.is("on a RING: soonest(1)", goes.soonest(1), -1);
+    goes.plank(1, 0);
+    e.is("not on a RING: soonest(1)", goes.soonest(1), 2);
     e.says(2, "THE PLANK: LONG (2 .. 40 knots; 10 at first),");
     e.is("at first: plank(0, 10)", new AntsTurn().plank(0, 10), 10);
     e.is("the least: plank(0, 2)", x.plank(0, 2), 5);
@@ -135,6 +139,12 @@ final class EdgesOfPlank {
     e.is("ant(5, 919, 20)", x.ant(5, 919, 20), 1);
     isToldAs(x, 1, 9, 1, 20, 9, 5);
     isToldAs(x, 0, 1, 0, 0, 0, 0);
+    AntsTurn more = new AntsTurn();
+    more.ant(0, 500, 0);
+    e.is("one: soonest(1)", more.soonest(1), 10);
+    more.ant(1, 900, 20);
+    e.is("it goes with those that were there: soonest(1)", more.soonest(1), 42);
+    e.is("it goes with those that were there: last(0)", more.last(0), 1);
     e.says(3, "have a KIND: 0 ANT, 1 STUBBORN under ANT, 2 SHY under ANT, 3 TIRED under STUBBORN, 4 PROUD under SHY, 5 EDGY under SHY;");
     AntsTurn kinds = new AntsTurn();
     for (int kind = 0; kind < 6; kind++) {

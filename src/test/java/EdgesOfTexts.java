@@ -1,13 +1,9 @@
 /** Promises 6 to 8: the tape, texts and the rule. */
-final class EdgesOfTexts {
-  private static final int MIN = Edges.MIN, MAX = Edges.MAX;
-  private static final int NONE = Edges.NONE, BAD = Edges.BAD, FULL = Edges.FULL;
+final class EdgesOfTexts extends EdgesOf {
   private static final String GOOD = "turn 1;stay 0;heat 0;";
 
-  private final Edges e;
-
   private EdgesOfTexts(Edges e) {
-    this.e = e;
+    super(e);
   }
 
   static void look(Edges e) {
@@ -43,36 +39,21 @@ final class EdgesOfTexts {
 
   /** Two ants on knots 2 and 4 meet once, on place 6 in beat 2. */
   private static AntsTurn pair(String rule) {
-    AntsTurn x = new AntsTurn();
-    x.ant(0, 200, 0);
-    x.ant(0, 410, 0);
-    Texts.rule(x, rule);
-    return x;
+    return Texts.rule(pair(), rule);
   }
 
   /** Two ants on a ring that meet in beats 0, 10 .. 200 if they both turn or both don't. */
   private static AntsTurn ring(String rule) {
-    AntsTurn x = new AntsTurn();
-    x.plank(1, 1);
-    x.ant(0, 500, 0);
-    x.ant(0, 510, 0);
-    Texts.rule(x, rule);
-    return x;
+    return Texts.rule(with(10, 1, new int[] {0, 500, 0}, new int[] {0, 510, 0}), rule);
   }
 
   /** One ant that is at the end 1 in beat 2, and if it turns, at the end 0 in beat 6, and so on. */
   private static AntsTurn single(int kind, int number, String rule) {
-    AntsTurn x = new AntsTurn();
-    x.plank(0, 2);
-    x.ant(kind, 100 + number, 0);
-    Texts.rule(x, rule);
-    return x;
+    return Texts.rule(with(2, 0, new int[] {kind, 100 + number, 0}), rule);
   }
 
   private void worth(String expression, int want) {
-    AntsTurn x = pair("turn 1;stay 0;heat " + expression + ";");
-    e.is("heat " + expression + " is a text", x.count(5), 1);
-    e.is("heat " + expression, x.of(0, 4), want);
+    e.is("heat " + expression, pair("turn 1;stay 0;heat " + expression + ";").of(0, 4), want);
   }
 
   private void feed() {
@@ -114,6 +95,14 @@ final class EdgesOfTexts {
     e.is("count(3) behind a fault", x.count(3), 2);
     e.is("count(5)", x.count(5), 0);
     e.is("a text behind a fault", Texts.read(x, GOOD), 2);
+    AntsTurn many = pair("turn 1;stay 0;heat 9;");
+    String sum = "turn 1;stay 0;heat 1" + "+1".repeat(68);
+    for (int n = 2; n < 6; n++) {
+      e.is("157 bytes that end too early", Texts.read(many, sum), -100 - sum.length());
+      e.is("a text of 158 bytes behind them", Texts.read(many, sum + ";"), n);
+      many.force(n);
+      e.is("what it comes to: of(0, 4)", many.of(0, 4), 69);
+    }
     fault("?" + " ".repeat(159), 0);
     fault(" ".repeat(159) + "?", 159);
     fault(" ".repeat(160), 160);
@@ -407,7 +396,8 @@ final class EdgesOfTexts {
     }
     Object[][] others = {
       {"2+3*4", 14}, {"2*3+4", 10}, {"2*(3+4)", 14}, {"-2*-3", 6}, {"-2+5", 3}, {"--9", 9}, {"2--3", 5}, {"5-(3-1)", 3},
-      {"(1<2)+(2<3)", 2}, {"(1 or 1)+(1 and 1)", 2}, {"0012", 12}, {"2*3*4", 24}, {"20-2-3*4", 6}, {"-(2-9)", 7}
+      {"(1<2)+(2<3)", 2}, {"(1 or 1)+(1 and 1)", 2}, {"0012", 12}, {"2*3*4", 24},
+      {"9-4+3", 8}, {"4+9-3", 10}, {"20-2-3*4", 6}, {"-(2-9)", 7}
     };
     for (Object[] o : others) {
       worth((String) o[0], (Integer) o[1]);
@@ -502,10 +492,7 @@ final class EdgesOfTexts {
     e.is("stay meets=2, behind one meeting: of(0, 0)", pair("turn 1;stay meets=2;heat 0;").of(0, 0), 8);
     String[] stays = {"others and number", "others and not number"};
     for (int k = 0; k < 2; k++) {
-      AntsTurn x = new AntsTurn();
-      x.plank(0, 2);
-      x.ant(0, 100, 0);
-      x.ant(0, 100, 0);
+      AntsTurn x = with(2, 0, new int[] {0, 100, 0}, new int[] {0, 100, 0});
       Texts.rule(x, "turn 1;stay " + stays[k] + ";heat 0;");
       e.is("stay " + stays[k] + ": of(0, 0)", x.of(0, 0), k == 0 ? 2 : 6);
       e.is("stay " + stays[k] + ": of(1, 0)", x.of(1, 0), k == 0 ? 6 : 2);

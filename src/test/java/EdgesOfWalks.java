@@ -1,12 +1,7 @@
 /** Promises 9 to 14: how they go, where they are, and as if they went through one another. */
-final class EdgesOfWalks {
-  private static final int MIN = Edges.MIN, MAX = Edges.MAX;
-  private static final int NONE = Edges.NONE, BAD = Edges.BAD, NO_SUCH = Edges.NO_SUCH;
-
-  private final Edges e;
-
+final class EdgesOfWalks extends EdgesOf {
   private EdgesOfWalks(Edges e) {
-    this.e = e;
+    super(e);
   }
 
   static void look(Edges e) {
@@ -29,28 +24,9 @@ final class EdgesOfWalks {
     t.like();
   }
 
-  private static AntsTurn with(int knots, int ring, int[]... ants) {
-    AntsTurn x = new AntsTurn();
-    x.plank(0, knots);
-    x.plank(1, ring);
-    for (int[] a : ants) {
-      x.ant(a[0], a[1], a[2]);
-    }
-    return x;
-  }
-
-  private static AntsTurn pair() {
-    return with(10, 0, new int[] {0, 200, 0}, new int[] {0, 410, 0});
-  }
-
   /** One ant on the middle of a plank of two knots, facing right. */
   private static AntsTurn single(int kind, int number) {
     return with(2, 0, new int[] {kind, 100 + number, 0});
-  }
-
-  /** OFF in 200 from knot 3 of 11; from knot 4 it would be in 202. */
-  private static AntsTurn late(int knot) {
-    return with(11, 0, new int[] {2, 100 * knot + 17, 20});
   }
 
   private void isOf(String of, AntsTurn x, int ant, int... wants) {
@@ -322,7 +298,8 @@ final class EdgesOfWalks {
       e.stays(Scene.SOME, "order(" + beat + ")", x -> x.order(beat), BAD);
     }
     e.stays(Scene.SOME, "order(0)", x -> x.order(0), 1);
-    e.says(12, "ORDER: ants by places (of like places by numbers) at a BEAT, as digits, each 1 more, the first one's the highest (0: none).");
+    e.says(12, "ORDER: ants by places (of like places by numbers) at a BEAT, as digits, "
+        + "each 1 more, the first one's the highest (0: none).");
     e.stays(Scene.NEW, "order(0)", x -> x.order(0), 0);
     e.stays(Scene.NEW, "order(200)", x -> x.order(200), 0);
     AntsTurn x = with(10, 0);
@@ -447,7 +424,8 @@ final class EdgesOfWalks {
     e.is("8, 8, 16, 16 both times: through(0, 2)", three.through(0, 2), 1);
     AntsTurn x = with(10, 0, new int[] {0, 500, 0}, new int[] {0, 510, 0});
     Object[][] rules = {
-      {"0", 1}, {"number", 1}, {"not number", 1}, {"1", 1}, {"number and left", 0}, {"number and (left or 20<beat)", 0}
+      {"0", 1}, {"number", 1}, {"not number", 1}, {"1", 1}, {"number and left", 0},
+      {"not number and (beat<15 or left and beat<35)", 0}, {"number and (left or 20<beat)", 0}
     };
     for (Object[] r : rules) {
       AntsTurn y = with(10, 0, new int[] {0, 500, 0}, new int[] {0, 510, 0});

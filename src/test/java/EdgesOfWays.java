@@ -1,14 +1,10 @@
 /** Promises 15 to 25: all the ways to face, what is carried, a ring, drawn ants, the image and counts. */
-final class EdgesOfWays {
-  private static final int MIN = Edges.MIN, MAX = Edges.MAX;
-  private static final int NONE = Edges.NONE, BAD = Edges.BAD, STATE = Edges.STATE, NOTHING = Edges.NOTHING;
+final class EdgesOfWays extends EdgesOf {
   private static final int[] NO_EITHER = {-1, 2, MIN, MAX};
   private static final int[] NO_ANT = {-1, 3, 7, MIN, MAX};
 
-  private final Edges e;
-
   private EdgesOfWays(Edges e) {
-    this.e = e;
+    super(e);
   }
 
   static void look(Edges e) {
@@ -34,29 +30,9 @@ final class EdgesOfWays {
     t.count();
   }
 
-  private static AntsTurn with(int knots, int ring, int[]... ants) {
-    AntsTurn x = new AntsTurn();
-    x.plank(0, knots);
-    x.plank(1, ring);
-    for (int[] a : ants) {
-      x.ant(a[0], a[1], a[2]);
-    }
-    return x;
-  }
-
-  /** By its ways 0 to 3 they are off in 16 and 12, 4 and 12, 8 and 16, 4 and 8. */
-  private static AntsTurn pair() {
-    return with(10, 0, new int[] {0, 200, 0}, new int[] {0, 410, 0});
-  }
-
   /** Ant 0 is off in 2, or to the left in 18; ant 1 in 10. */
   private static AntsTurn stubborn() {
     return with(10, 0, new int[] {1, 900, 0}, new int[] {1, 500, 0});
-  }
-
-  /** From knot 3 it is off in 200 by way 1 alone; from knot 4 by none. */
-  private static AntsTurn late(int knot) {
-    return with(11, 0, new int[] {2, 100 * knot + 17, 20});
   }
 
   /** Seven that go on as they face, put on one behind the other, and off in 10, 12 .. 22 by all ways. */
@@ -69,8 +45,7 @@ final class EdgesOfWays {
   }
 
   private static AntsTurn ruled(AntsTurn x, String stay) {
-    Texts.rule(x, "turn 1;stay " + stay + ";heat 0;");
-    return x;
+    return Texts.rule(x, "turn 1;stay " + stay + ";heat 0;");
   }
 
   private void isSoonest(String of, AntsTurn x, int way, int beat) {
@@ -299,12 +274,12 @@ final class EdgesOfWays {
     isFit(four, 2, 1, 0, NONE, 2, 6, 0);
     AntsTurn turned = pair();
     turned.ant(0, 810, 0);
-    isFit("none meet by four of eight", heardNothing(turned), 1, 4, 0);
-  }
-
-  private static AntsTurn heardNothing(AntsTurn x) {
-    x.sheet(0, 1, 0);
-    return x;
+    isFit(turned, 1, 1, 4, 0);
+    // Those that met go left from there on, so that the third one meets nobody.
+    Texts.rule(turned, "turn not left;stay 0;heat 0;");
+    isFit(turned, 1, 1, 2, 2, 2);
+    isFit(turned, 1, 1, 0, NONE, 2, 6);
+    isFit(turned, 1, 1, 1, 4, 4, 6);
   }
 
   private static int[] beats(int from, int step, int n) {
@@ -354,11 +329,11 @@ final class EdgesOfWays {
     isByThen(x, 16, 1, 1);
     e.says(19, "NO: BEAT, part.");
     for (int beat : new int[] {-1, 201, MIN, MAX}) {
-      e.stays(Scene.SOME, "byThen(" + beat + ", 0)", y -> y.byThen(beat, 0), Edges.NO);
-      e.stays(Scene.NEW, "byThen(" + beat + ", 1)", y -> y.byThen(beat, 1), Edges.NO);
+      e.stays(Scene.SOME, "byThen(" + beat + ", 0)", y -> y.byThen(beat, 0), NO);
+      e.stays(Scene.NEW, "byThen(" + beat + ", 1)", y -> y.byThen(beat, 1), NO);
     }
     for (int part : NO_EITHER) {
-      e.stays(Scene.SOME, "byThen(0, " + part + ")", y -> y.byThen(0, part), Edges.NO);
+      e.stays(Scene.SOME, "byThen(0, " + part + ")", y -> y.byThen(0, part), NO);
     }
   }
 
@@ -444,7 +419,8 @@ final class EdgesOfWays {
     e.stays(Scene.NEW, "round()", AntsTurn::round, STATE);
     e.stays(Scene.SOME, "round()", AntsTurn::round, STATE);
     e.stays(Scene.FULL, "round()", AntsTurn::round, STATE);
-    e.says(21, "ROUND: on a RING: the least n of 1 .. 160 so that in BEAT 40 and n all ants are where they are in BEAT 40, and face so; NONE.");
+    e.says(21, "ROUND: on a RING: the least n of 1 .. 160 so that in BEAT 40 and n all ants are where they are "
+        + "in BEAT 40, and face so; NONE.");
     e.is("without ants", with(10, 1).round(), 1);
     e.is("the least ring", with(2, 1, new int[] {0, 100, 0}).round(), 4);
     e.is("the longest ring", with(40, 1, new int[] {0, 100, 0}).round(), 80);
@@ -462,8 +438,13 @@ final class EdgesOfWays {
     e.is("they don't turn from beat 60 on", text.round(), NONE);
     Texts.rule(text, "turn beat<40;stay 0;heat 0;");
     e.is("they don't turn from beat 40 on", text.round(), 20);
-    Texts.rule(text, "turn beat<61;stay 0;heat 0;");
-    e.is("they don't turn from beat 61 on", text.round(), 20);
+    Texts.rule(text, "turn beat<41;stay 0;heat 0;");
+    e.is("they turn in beat 40 and never behind it", text.round(), 20);
+    AntsTurn odd = with(10, 1, new int[] {0, 500, 0}, new int[] {0, 610, 0});
+    Texts.rule(odd, "turn beat<41;stay 0;heat 0;");
+    e.is("they meet in beat 41 and don't turn any more", odd.round(), 20);
+    Texts.rule(odd, "turn beat<42;stay 0;heat 0;");
+    e.is("they turn in beat 41, behind beat 40, and never again", odd.round(), NONE);
   }
 
   private void drawn() {

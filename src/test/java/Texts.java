@@ -19,10 +19,13 @@ final class Texts {
     return read(new AntsTurn(), letters);
   }
 
-  /** A text that is the rule from now on; false, if there is a fault in it. */
-  static boolean rule(AntsTurn x, String letters) {
+  /** A text that is the rule from now on; a fault in it would make the test worthless. */
+  static AntsTurn rule(AntsTurn x, String letters) {
     int text = read(x, letters);
-    return text > 0 && x.force(text) >= 0;
+    if (text <= 0 || x.force(text) < 0 || x.count(5) != text) {
+      throw new IllegalStateException("'" + letters + "' is no rule: " + text);
+    }
+    return x;
   }
 
   static void row(AntsTurn x, int sheet, int sort, int... cells) {
